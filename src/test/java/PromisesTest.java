@@ -232,6 +232,7 @@ public final class PromisesTest {
         errorAt("00", 1);
         errorAt("0:0", 2);
         errorAt("0:;", 2);
+        errorAt("0::", 2);
         errorAt("0:#", 2);
         errorAt("0:9", 3);
         errorAt("0:99", 4);
@@ -245,6 +246,7 @@ public final class PromisesTest {
         errorAt("0:1#", 4);
         errorAt("0:1#a", 4);
         errorAt("0:1#;", 4);
+        errorAt("0:1#:", 4);
         errorAt("0:1##", 4);
         errorAt("0:1#0", 5);
         errorAt("0:1#9", 5);
@@ -255,6 +257,7 @@ public final class PromisesTest {
         errorAt(".", 1);
         errorAt(".0", 1);
         errorAt(".;", 1);
+        errorAt(".:", 1);
         errorAt("..", 1);
         errorAt(".1", 2);
         errorAt(".9", 2);
