@@ -873,24 +873,19 @@ public final class EchoLine {
 
         /** Lets a complete dialogue happen, up to the first part of it that cannot. */
         void happenIn(Chamber chamber) {
-            int end;
-            for (int start = 0; start < length; start = end + 1) {
-                end = partEnd(start);
-                boolean happens = signs[start] == '.'
-                        ? restIn(chamber, start, end) : speakIn(chamber, start, end);
-                if (!happens) {
-                    return;
+            int start = 0;
+            for (int place = 0; place <= length; place++) {
+                if (place == length || signs[place] == ';') {
+                    if (!partHappens(chamber, start, place)) {
+                        return;
+                    }
+                    start = place + 1;
                 }
             }
         }
 
-        private int partEnd(int start) {
-            for (int place = start; place < length; place++) {
-                if (signs[place] == ';') {
-                    return place;
-                }
-            }
-            return length;
+        private boolean partHappens(Chamber chamber, int start, int end) {
+            return signs[start] == '.' ? restIn(chamber, start, end) : speakIn(chamber, start, end);
         }
 
         private boolean restIn(Chamber chamber, int start, int end) {
