@@ -200,6 +200,24 @@ public final class BoundaryTermsTest {
         Checks.test("and not more than setting 2 beats ago: at first 8", () -> heardUpTo(8));
         Checks.test("and not more than setting 2 beats ago: the lowest", () -> heardUpTo(1));
         Checks.test("and not more than setting 2 beats ago: the highest", () -> heardUpTo(50));
+        Checks.test("and not more than setting 2 beats ago: by when it came, however long before it was said", () -> {
+            for (int memory : new int[] {1, 8, 50}) {
+                EchoLine x = new EchoLine();
+                x.set(0, 5);
+                x.set(1, 4);
+                x.set(2, memory);
+                x.wall(4, Checks.HOLLOW);
+                x.say(1, 1, NONE);
+                x.say(1, 2, NONE);
+                // They come in the beats 19 and 20.
+                x.pass(40);
+                x.pass(40);
+                for (int beat = 0; beat < 80; beat++) {
+                    boolean both = beat >= 20 && beat <= 19 + memory;
+                    due("heard in " + beat, x.heard(4, beat, 0), both ? 0 : NONE);
+                }
+            }
+        });
         Checks.test("If there are fewer than two such words, there is silence: none and one", () -> {
             EchoLine x = Checks.withoutDelay();
             x.pass(1);

@@ -354,6 +354,32 @@ public final class BoundaryUndoTest {
             due("heard anew", x.said(0, 5), 63 - 8);
             due("once", x.speaker(0, 2) * 10 + x.speaker(0, 7), 11);
         });
+        Checks.test("12: going back brings back the words in whose places others were said", () -> {
+            EchoLine x = words();
+            x.keep();
+            while (x.count(9) > 0) {
+                x.undo();
+            }
+            otherWords(x);
+            x.restore();
+            wordsAreBack(x);
+        });
+        Checks.test("10: going back brings back the words in whose places others were said", () -> {
+            EchoLine x = words();
+            while (x.count(9) > 0) {
+                x.undo();
+            }
+            x.keep();
+            x.say(0, 11, 3);
+            x.say(2, 22, NONE);
+            x.say(0, 33, 3);
+            x.say(3, 44, 9);
+            x.pass(2);
+            x.restore();
+            otherWords(x);
+            Checks.dueEach("left", step -> x.undo(), 5, 4, 3, 2, 1, 0);
+            wordsAreBack(x);
+        });
         Checks.test("10: going back leaves nothing behind: the same calls answer the same", () -> {
             EchoLine x = words();
             x.undo();
@@ -362,6 +388,29 @@ public final class BoundaryUndoTest {
             x.pass(2);
             Checks.same("undone and done again, and done once", x, words());
         });
+    }
+
+    /** Three words, in other beats, in the places of the first three of words(), and another setting 2. */
+    private static void otherWords(EchoLine x) {
+        x.set(2, 2);
+        x.pass(3);
+        x.say(5, 61, NONE);
+        x.say(4, 62, 8);
+        x.say(5, 63, 8);
+    }
+
+    private static void wordsAreBack(EchoLine x) {
+        int[][] said = {{0, 11, 3, 0, 63}, {2, 22, NONE, 1, 63}, {0, 33, 3, 2, 63}, {3, 44, 9, 3, 63}};
+        int[][] comes = {{1, 2, 3, 4, 3, 2}, {4, 3, 2, 3, 4, 5}, {3, 4, 5, 6, 5, 4}, {7, 6, 5, 4, 5, 6}};
+        for (int number = 0; number < 4; number++) {
+            int its = number;
+            Checks.dueEach("word " + number, what -> x.said(its, what), said[number]);
+            Checks.dueEach("comes, word " + number, seat -> x.comes(its, seat), comes[number]);
+        }
+        Checks.dueEach("heard at 0", beat -> x.heard(0, beat, 0), NONE, NONE, NONE, 0, 2, 2);
+        Checks.dueEach("heard at 3", beat -> x.heard(3, beat, 0), NONE, NONE, NONE, NONE, 0, 0);
+        due("beat", x.count(0), 6);
+        due("setting 2", x.count(8), 8);
     }
 
     private static void due(String call, long got, long want) {

@@ -9,6 +9,7 @@ public final class BoundaryWouldBeTest {
     public static void main(String[] args) {
         ifSilent();
         heardIn();
+        heardInByTheSettingOfNow();
         heardInAtTheEnd();
         heardInRefused();
         bestSeatByReach();
@@ -121,6 +122,20 @@ public final class BoundaryWouldBeTest {
             due("not in 60", x.heardIn(0, 0), NONE);
             x.set(2, 5);
             due("in the fourth beat from now on", x.heardIn(0, 0), 4);
+        });
+    }
+
+    private static void heardInByTheSettingOfNow() {
+        Checks.test("21: 0 if it was heard already: not if it was silent, and would not be any more", () -> {
+            EchoLine x = Checks.withoutDelay();
+            x.set(2, 1);
+            x.say(0, 1, NONE);
+            x.pass(1);
+            x.say(0, 2, NONE);
+            due("two beats between them", x.heardIn(0, 3), NONE);
+            x.set(2, 8);
+            due("was not heard", x.whyNot(0, 3), 3);
+            due("from now on", x.heardIn(0, 3), 1);
         });
     }
 
