@@ -923,7 +923,8 @@ public final class EchoLine {
 
     /** A hash that takes one value behind the other. */
     private static final class Hash {
-        private static final double TWO_TO_52 = 4503599627370496.0;
+        private static final int FRACTION_BITS = 52;
+        private static final long FRACTIONS = 1L << FRACTION_BITS;
         private static final int EXPONENT_OF_ONE = 1023;
 
         long value = 3853;
@@ -946,7 +947,7 @@ public final class EchoLine {
                 scaled = scaled * 2.0;
                 exponent--;
             }
-            return ((long) exponent << 52) | (long) ((scaled - 1.0) * TWO_TO_52);
+            return ((long) exponent << FRACTION_BITS) | (long) ((scaled - 1.0) * FRACTIONS);
         }
     }
 }

@@ -6,13 +6,15 @@ import java.lang.reflect.Method;
 import java.lang.reflect.Modifier;
 import java.nio.file.Files;
 import java.nio.file.Path;
+import java.util.ArrayList;
 import java.util.Arrays;
+import java.util.List;
 import java.util.Set;
 import java.util.TreeSet;
 import java.util.regex.Matcher;
 import java.util.regex.Pattern;
 
-/** The public face to the letter, and those rules of LANGUAGE.md that can be read off the file. */
+/** The public face to the letter, and the order of the calls under their headings. */
 public final class FaceTest {
     private static final String[] FACE = {
         "public EchoLine()",
@@ -42,14 +44,14 @@ public final class FaceTest {
         "public static final int NONE",
     };
 
-    /** What LANGUAGE.md leaves out, as it would stand in the file. */
-    private static final String[] FORBIDDEN = {
-        "->", "::", "\\bimport\\b", "\\bpackage\\b", "\\bsynchronized\\b", "\\bassert\\b", "\\bfinally\\b",
-        "\\bcatch\\b", "\\bDouble\\b", "\\bFloat\\b", "\\bSystem\\.(?!arraycopy\\b)", "\\w+Exact\\b",
-        "\\bMath\\.(?!(abs|min|max|floorDiv|floorMod)\\b)", "\\bstatic\\s*\\{", "\\bwhile\\s*\\(true\\)",
-        "\\bequals\\b", "\\bhashCode\\b", "\\btoString\\b", "\\bString\\.", "\\bObject\\b",
-        "[^\\x00-\\x7f]", "\\bprotected\\b", "\" \\+", "\\+ \"",
-    };
+    /** The headings of the interface, and the calls that stand behind each. */
+    private static final List<String> ORDER = List.of(
+        "---- speaking", "say", "pass", "wall", "set",
+        "---- texts", "append", "clearBuffer", "firstError", "talk",
+        "---- undo, the snapshot", "undo", "keep", "restore",
+        "---- looks; nothing is changed", "said", "comes", "heard", "speaker", "message", "count", "whyNot",
+        "---- what would be; nothing is changed", "ifSilent", "heardIn", "bestSeat", "heardShare", "digest");
+    private static final Pattern HEADING_OR_CALL = Pattern.compile("// (----[^\n]*)|public (?:int|long|double) (\\w+)\\(");
 
     private static int wrong = 0;
 
@@ -58,17 +60,9 @@ public final class FaceTest {
         must(Modifier.isPublic(modifiers) && Modifier.isFinal(modifiers), "the class is not public and final");
         faceIsAsTold();
         for (Class<?> inside : EchoLine.class.getDeclaredClasses()) {
-            must(Modifier.isStatic(inside.getModifiers()), inside + " is not static");
             must(!Modifier.isPublic(inside.getModifiers()), inside + " is public");
-            must(inside.getDeclaredFields().length <= 40, inside + " has too many fields");
-            staticFieldsAreFinal(inside);
         }
-        staticFieldsAreFinal(EchoLine.class);
-        String code = codeOf(Files.readString(Path.of("src/main/java/EchoLine.java")));
-        for (String pattern : FORBIDDEN) {
-            Matcher matcher = Pattern.compile(pattern).matcher(code);
-            must(!matcher.find(), "the file has what matches " + pattern);
-        }
+        orderIsAsTold(Files.readString(Path.of("src/main/java/EchoLine.java")));
         System.out.println("FaceTest: " + wrong + " wrong");
         if (wrong != 0) {
             System.exit(1);
@@ -119,17 +113,13 @@ public final class FaceTest {
         return rest.toString();
     }
 
-    private static void staticFieldsAreFinal(Class<?> holder) {
-        for (Field field : holder.getDeclaredFields()) {
-            int modifiers = field.getModifiers();
-            must(!Modifier.isStatic(modifiers) || Modifier.isFinal(modifiers), field + " is static, not final");
+    private static void orderIsAsTold(String file) {
+        List<String> found = new ArrayList<>();
+        Matcher matcher = HEADING_OR_CALL.matcher(file);
+        while (matcher.find()) {
+            found.add(matcher.group(matcher.group(1) != null ? 1 : 2));
         }
-    }
-
-    /** The file without its comments and without the words in its texts. */
-    private static String codeOf(String file) {
-        String code = file.replaceAll("(?s)/\\*.*?\\*/", " ").replaceAll("//[^\n]*", " ");
-        return code.replaceAll("\"[^\"\n]*\"", "\"\"");
+        must(found.equals(ORDER), "the headings and calls are " + found);
     }
 
     private static void must(boolean holds, String otherwise) {

@@ -16,7 +16,6 @@ import java.util.regex.Pattern;
  */
 public final class ModelTest {
     private static final int RUNS = 240;
-    private static final int CALLS = 150;
     private static final int MOST_FAULTS = 20;
 
     private static long seed;
@@ -75,57 +74,66 @@ public final class ModelTest {
     /** Of a hundred calls those that go back, and those that change a setting. */
     private static int goingBack;
     private static int settling;
+    /** Of a hundred calls those that say a word, beside the usual ones. */
+    private static int talking;
+    /** The last kind of call; from 71 on they are texts, each of which takes many calls. */
+    private static int lastKind;
 
     private static void oneRun(int run) {
-        EchoLine x = new EchoLine();
+        Line x = new Line();
         Model m = new Model();
-        pauses = run % 6 == 0 ? 1 : 25;
-        goingBack = run % 6 == 0 ? 2 : 20;
+        boolean wordy = run % 6 == 0;
+        boolean slow = run % 6 == 3;
+        pauses = wordy ? 1 : slow ? 50 : 25;
+        goingBack = wordy || slow ? 1 : 20;
         settling = run % 6 == 1 ? 40 : 2;
-        int longestPass = run % 3 == 0 ? 50 : run % 3 == 1 ? 6 : 1;
+        talking = wordy ? 70 : 0;
+        lastKind = run % 3 == 2 ? 83 : 74;
+        int longestPass = wordy ? 1 : slow ? 50 : run % 3 == 1 ? 6 : 1;
         int seats = run % 5 == 0 ? 0 : 5;
         int marks = run % 4 == 0 ? 1 : 9;
-        for (int call = 0; call < (run % 6 == 0 ? 2 * CALLS : CALLS) && wrong < MOST_FAULTS; call++) {
+        while (!x.isFull() && wrong < MOST_FAULTS) {
             String made = oneCall(x, m, longestPass, seats, marks);
-            same(run + " digest behind " + made, "" + x.digest(), "" + m.digest());
+            looked(run + " digest behind " + made, x, EchoLine::digest, m::digest);
             if (chance(1)) {
-                allLooks(run, x, m);
+                someLooks(run, x, m);
             }
         }
-        allLooks(run, x, m);
+        someLooks(run, x, m);
     }
 
-    private static String oneCall(EchoLine x, Model m, int longestPass, int seats, int marks) {
-        int kind = chance(goingBack) ? pick(84, 99) : chance(settling) ? pick(63, 70) : pick(0, 83);
+    private static String oneCall(Line x, Model m, int longestPass, int seats, int marks) {
+        int kind = chance(goingBack) ? pick(84, 99) : chance(settling) ? pick(63, 70)
+                : chance(talking) ? 0 : pick(0, lastKind);
         if (kind < 45) {
             int seat = maybeOutside(0, seats);
             int word = maybeOutside(1, 99);
             int mark = chance(25) ? -1 : maybeOutside(0, marks);
-            return both("say", () -> x.say(seat, word, mark), () -> m.say(seat, word, mark));
+            return changed("say", x, line -> line.say(seat, word, mark), () -> m.say(seat, word, mark));
         } else if (kind < 50 + pauses / 4) {
             int beats = chance(5) ? pick(-1, 52) : pick(1, longestPass);
-            return both("pass", () -> x.pass(beats), () -> m.pass(beats));
+            return changed("pass", x, line -> line.pass(beats), () -> m.pass(beats));
         } else if (kind < 63) {
             int seat = maybeOutside(0, 5);
             int value = maybeOutside(0, 3);
-            return both("wall", () -> x.wall(seat, value), () -> m.wall(seat, value));
+            return changed("wall", x, line -> line.wall(seat, value), () -> m.wall(seat, value));
         } else if (kind < 71) {
             int setting = maybeOutside(0, 2);
             int value = chance(10) ? pick(-1, 52) : pick(0, setting == 2 ? 50 : setting == 1 ? 4 : 5);
-            return both("set", () -> x.set(setting, value), () -> m.set(setting, value));
+            return changed("set", x, line -> line.set(setting, value), () -> m.set(setting, value));
         } else if (kind < 84) {
             return oneText(x, m);
         } else if (kind < 92) {
-            return both("undo", x::undo, m::undo);
+            return changed("undo", x, EchoLine::undo, m::undo);
         } else if (kind < 96) {
-            return both("keep", x::keep, m::keep);
+            return changed("keep", x, EchoLine::keep, m::keep);
         }
-        return both("restore", x::restore, m::restore);
+        return changed("restore", x, EchoLine::restore, m::restore);
     }
 
-    private static String oneText(EchoLine x, Model m) {
+    private static String oneText(Line x, Model m) {
         if (chance(80)) {
-            both("clearBuffer", x::clearBuffer, m::clearBuffer);
+            changed("clearBuffer", x, EchoLine::clearBuffer, m::clearBuffer);
         }
         String text = chance(95) ? dialogue() : "0:" + "1,".repeat(40);
         if (chance(25)) {
@@ -135,13 +143,13 @@ public final class ModelTest {
         }
         for (int place = 0; place < text.length(); place++) {
             int code = chance(1) ? pick(30, 130) : text.charAt(place);
-            both("append", () -> x.append(code), () -> m.append(code));
+            changed("append", x, line -> line.append(code), () -> m.append(code));
             if (chance(20)) {
-                both("firstError", x::firstError, m::firstError);
+                looked("firstError", x, EchoLine::firstError, m::firstError);
             }
         }
-        both("firstError", x::firstError, m::firstError);
-        return both("talk of " + m.buffer, x::talk, m::talk);
+        looked("firstError", x, EchoLine::firstError, m::firstError);
+        return changed("talk of " + m.buffer, x, EchoLine::talk, m::talk);
     }
 
     private static String dialogue() {
@@ -164,61 +172,113 @@ public final class ModelTest {
         return text.toString();
     }
 
-    private static void allLooks(int run, EchoLine x, Model m) {
-        int words = m.now.words.size();
-        int beats = m.now.heard.size();
-        for (int number = -1; number <= words; number++) {
+    /** Of all looks that there are, in range and a little outside, one in ten. */
+    private static void someLooks(int run, Line x, Model m) {
+        for (int number = -1; number <= m.now.words.size(); number++) {
             int n = number;
             for (int what = -1; what <= 6; what++) {
                 int w = what;
-                both(run + " said " + n + " " + w, () -> x.said(n, w), () -> m.said(n, w));
+                maybeLooked(run + " said " + n + " " + w, x, line -> line.said(n, w), () -> m.said(n, w));
             }
             for (int seat = -1; seat <= 6; seat++) {
                 int s = seat;
-                both(run + " comes " + n + " " + s, () -> x.comes(n, s), () -> m.comes(n, s));
-                both(run + " whyNot " + n + " " + s, () -> x.whyNot(n, s), () -> m.whyNot(n, s));
-                both(run + " heardIn " + n + " " + s, () -> x.heardIn(n, s), () -> m.heardIn(n, s));
+                String which = " " + n + " " + s;
+                maybeLooked(run + " comes" + which, x, line -> line.comes(n, s), () -> m.comes(n, s));
+                maybeLooked(run + " whyNot" + which, x, line -> line.whyNot(n, s), () -> m.whyNot(n, s));
+                maybeLooked(run + " heardIn" + which, x, line -> line.heardIn(n, s), () -> m.heardIn(n, s));
             }
         }
         for (int seat = -1; seat <= 6; seat++) {
-            int s = seat;
-            both(run + " ifSilent " + s, () -> x.ifSilent(s), () -> m.ifSilent(s));
-            for (int beat = -1; beat <= beats; beat++) {
-                int b = beat;
-                for (int what = -1; what <= 3; what++) {
-                    int w = what;
-                    both(run + " heard " + s + " " + b + " " + w, () -> x.heard(s, b, w), () -> m.heard(s, b, w));
-                }
-            }
-            for (int what = -1; what <= 8; what++) {
-                int w = what;
-                both(run + " speaker " + s + " " + w, () -> x.speaker(s, w), () -> m.speaker(s, w));
-            }
-            for (int from = -1; from <= 6; from++) {
-                int f = from;
-                for (int mark = -1; mark <= 10; mark++) {
-                    int k = mark;
-                    both(run + " message " + f + " " + k + " " + s, () -> x.message(f, k, s), () -> m.message(f, k, s));
-                }
-            }
+            looksAtSpeaker(run, seat, x, m);
         }
         for (int what = -1; what <= 10; what++) {
             int w = what;
-            both(run + " count " + w, () -> x.count(w), () -> m.count(w));
+            looked(run + " count " + w, x, line -> line.count(w), () -> m.count(w));
         }
-        both(run + " bestSeat", x::bestSeat, m::bestSeat);
-        same(run + " heardShare", "" + x.heardShare(), "" + m.heardShare());
+        looked(run + " bestSeat", x, EchoLine::bestSeat, m::bestSeat);
+        looked(run + " heardShare", x, EchoLine::heardShare, m::heardShare);
+    }
+
+    private static void looksAtSpeaker(int run, int s, Line x, Model m) {
+        looked(run + " ifSilent " + s, x, line -> line.ifSilent(s), () -> m.ifSilent(s));
+        for (int beat = -1; beat <= m.now.heard.size(); beat++) {
+            int b = beat;
+            for (int what = -1; what <= 3; what++) {
+                int w = what;
+                String which = s + " " + b + " " + w;
+                maybeLooked(run + " heard " + which, x, line -> line.heard(s, b, w), () -> m.heard(s, b, w));
+            }
+        }
+        for (int what = -1; what <= 8; what++) {
+            int w = what;
+            looked(run + " speaker " + s + " " + w, x, line -> line.speaker(s, w), () -> m.speaker(s, w));
+        }
+        for (int from = -1; from <= 6; from++) {
+            int f = from;
+            for (int mark = -1; mark <= 10; mark++) {
+                int k = mark;
+                String which = f + " " + k + " " + s;
+                maybeLooked(run + " message " + which, x, line -> line.message(f, k, s), () -> m.message(f, k, s));
+            }
+        }
+    }
+
+    private interface Asked {
+        Object of(EchoLine x);
     }
 
     private interface Call {
-        int answer();
+        Object answer();
     }
 
-    private static String both(String name, Call ours, Call due) {
+    /**
+     * The object under test. It gets at most 512 calls, since what later ones answer is free: then
+     * the changes are made once more, on a new one.
+     */
+    private static final class Line {
+        private static final int MOST_CALLS = 512;
+        private static final int MANY_CHANGES = 380;
+
+        private final List<Asked> changes = new ArrayList<>();
+        private EchoLine x = new EchoLine();
+        private int calls = 0;
+
+        boolean isFull() {
+            return changes.size() >= MANY_CHANGES;
+        }
+
+        String change(Asked call) {
+            String answer = look(call);
+            changes.add(call);
+            return answer;
+        }
+
+        String look(Asked call) {
+            if (calls >= MOST_CALLS) {
+                x = new EchoLine();
+                changes.forEach(change -> answerOf(() -> change.of(x)));
+                calls = changes.size();
+            }
+            calls++;
+            return answerOf(() -> call.of(x));
+        }
+    }
+
+    private static String changed(String name, Line x, Asked ours, Call due) {
         String want = answerOf(due);
         String made = name + " that answers " + want;
-        same(name, answerOf(ours), want);
+        same(name, x.change(ours), want);
         return made;
+    }
+
+    private static void looked(String name, Line x, Asked ours, Call due) {
+        same(name, x.look(ours), answerOf(due));
+    }
+
+    private static void maybeLooked(String name, Line x, Asked ours, Call due) {
+        if (chance(10)) {
+            looked(name, x, ours, due);
+        }
     }
 
     private static String answerOf(Call call) {

@@ -1,4 +1,5 @@
 import java.util.Arrays;
+import java.util.function.Supplier;
 
 /** Each promise of the document, by answers worked out by hand: ordinary, at the edges, wrong. */
 public final class PromisesTest {
@@ -814,46 +815,82 @@ public final class PromisesTest {
     }
 
     private static void promise24Digest() {
-        EchoLine x = new EchoLine();
-        due("24 new", x.digest() == digestOf(x) ? 1 : 0, 1);
+        digestIsAsTold("24 new", EchoLine::new, "");
+        for (int more = 0; more <= 14; more++) {
+            int words = more;
+            digestIsAsTold("24 behind five words and " + more, () -> fiveWordsAnd(words), "0:7~");
+        }
+        EchoLine y = fiveWordsAnd(0);
+        due("24 nothing is changed", y.digest() == y.digest() ? 1 : 0, 1);
+    }
+
+    private static EchoLine fiveWordsAnd(int more) {
         EchoLine y = fourWords();
         type(y, "0:7~");
         y.wall(3, 1);
         y.say(1, 2, 9);
-        due("24 behind five words", y.digest() == digestOf(y) ? 1 : 0, 1);
-        due("24 nothing is changed", y.digest() == y.digest() ? 1 : 0, 1);
-        for (int number = 0; number < 14; number++) {
+        for (int number = 0; number < more; number++) {
             y.say(number % 6, 99 - number, number % 10);
-            due("24 behind more words", y.digest() == digestOf(y) ? 1 : 0, 1);
+        }
+        return y;
+    }
+
+    /** One chamber, made anew behind 400 looks, since what calls behind the 512th answer is free. */
+    private static final class Renewed {
+        private final Supplier<EchoLine> maker;
+        private EchoLine line;
+        private int looks = 0;
+
+        Renewed(Supplier<EchoLine> maker) {
+            this.maker = maker;
+        }
+
+        EchoLine line() {
+            if (looks % 400 == 0) {
+                line = maker.get();
+            }
+            looks++;
+            return line;
         }
     }
 
+    /** No method tells the characters of the buffer, so they are told here by the text. */
+    private static void digestIsAsTold(String what, Supplier<EchoLine> maker, String typed) {
+        Renewed x = new Renewed(maker);
+        long hash = 31 * digestAheadOfBuffer(x) + typed.length();
+        for (int place = 0; place < typed.length(); place++) {
+            hash = 31 * hash + typed.charAt(place);
+        }
+        due(what, maker.get().digest() == hash ? 1 : 0, 1);
+    }
+
     /** The digest as the document tells it, from the answers of the other methods. */
-    private static long digestOf(EchoLine x) {
+    private static long digestAheadOfBuffer(Renewed x) {
         long hash = 3853;
         for (int what = 0; what <= 9; what++) {
-            hash = 31 * hash + x.count(what);
+            hash = 31 * hash + x.line().count(what);
         }
         for (int seat = 0; seat < 6; seat++) {
             for (int what = 0; what <= 7; what++) {
-                hash = 31 * hash + x.speaker(seat, what);
+                hash = 31 * hash + x.line().speaker(seat, what);
             }
-            hash = 31 * hash + x.ifSilent(seat);
+            hash = 31 * hash + x.line().ifSilent(seat);
         }
-        int words = x.count(1);
+        int words = x.line().count(1);
+        int beats = x.line().count(0);
         for (int number = words - 1; number >= 0 && number >= words - 12; number--) {
             for (int what = 0; what <= 5; what++) {
-                hash = 31 * hash + x.said(number, what);
+                hash = 31 * hash + x.line().said(number, what);
             }
             for (int seat = 0; seat < 6; seat++) {
-                hash = 31 * hash + x.comes(number, seat);
-                hash = 31 * hash + x.whyNot(number, seat);
+                hash = 31 * hash + x.line().comes(number, seat);
+                hash = 31 * hash + x.line().whyNot(number, seat);
             }
         }
-        for (int beat = x.count(0) - 1; beat >= 0 && beat >= x.count(0) - 8; beat--) {
+        for (int beat = beats - 1; beat >= 0 && beat >= beats - 8; beat--) {
             for (int seat = 0; seat < 6; seat++) {
                 for (int what = 0; what <= 2; what++) {
-                    hash = 31 * hash + x.heard(seat, beat, what);
+                    hash = 31 * hash + x.line().heard(seat, beat, what);
                 }
             }
         }
@@ -861,38 +898,22 @@ public final class PromisesTest {
             for (int mark = 0; mark <= 9; mark++) {
                 int sum = 0;
                 for (int seat = 0; seat < 6; seat++) {
-                    sum += x.message(from, mark, seat);
+                    sum += x.line().message(from, mark, seat);
                 }
                 hash = 31 * hash + sum;
             }
         }
         for (int seat = 0; seat < 6; seat++) {
-            hash = 31 * hash + (words == 0 ? NONE : x.heardIn(words - 1, seat));
+            hash = 31 * hash + (words == 0 ? NONE : x.line().heardIn(words - 1, seat));
         }
-        hash = 31 * hash + x.bestSeat();
-        hash = 31 * hash + Double.doubleToLongBits(x.heardShare());
-        return typedInto(x, hash);
+        hash = 31 * hash + x.line().bestSeat();
+        return 31 * hash + Double.doubleToLongBits(x.line().heardShare());
     }
-
-    /** No method tells the characters of the buffer, so they are kept here when they are typed. */
-    private static long typedInto(EchoLine x, long before) {
-        String typed = x == typedLast ? typedText : "";
-        long hash = 31 * before + typed.length();
-        for (int place = 0; place < typed.length(); place++) {
-            hash = 31 * hash + typed.charAt(place);
-        }
-        return hash;
-    }
-
-    private static EchoLine typedLast = null;
-    private static String typedText = "";
 
     private static void type(EchoLine x, String text) {
         for (int place = 0; place < text.length(); place++) {
             x.append(text.charAt(place));
         }
-        typedLast = x;
-        typedText = text;
     }
 
     private static void due(String what, long got, long want) {
